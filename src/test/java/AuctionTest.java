@@ -269,5 +269,9 @@ public final class AuctionTest {
         due.same("wants stay", 4600, x.wanted(0, 0, 0));
         due.same("what is left stays", 999600, x.left(0));
         due.same("pool", 99, x.pool(0));
+        due.same("pay(0)", 13, x.pay(0, 0));
+        due.same("worth(0), upper", 0, x.worth(0, 0, 0));
+        due.same("worth(0), lower", 1, x.worth(0, 0, 1));
+        due.same("wire", 99, x.wire(0, 0, 0, 0));
     }
 }

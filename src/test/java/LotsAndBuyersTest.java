@@ -9,6 +9,7 @@ public final class LotsAndBuyersTest {
         money();
         wants();
         daysAndRot();
+        lastDay();
         counts();
         due.finish("LotsAndBuyersTest");
     }
@@ -43,6 +44,9 @@ public final class LotsAndBuyersTest {
         due.same("count(1)", 100, x.count(1));
         due.same("about(99, 3)", 100, x.about(99, 3));
         due.same("about(99, 0)", 3, x.about(99, 0));
+        Due.rules(x, "rot 10;");
+        due.same("next with a hundred", 1, x.next());
+        due.same("about(99, 3) rotten", 90, x.about(99, 3));
     }
 
     private static void aboutWrong() {
@@ -139,6 +143,19 @@ public final class LotsAndBuyersTest {
         x.next();
         due.same("a rejected one does", 113, x.about(2, 3));
         due.same("its sale keeps the boxes", 168, x.sale(0, 3));
+    }
+
+    /** The document frees answers behind the 512th call; the class keeps its word there, too. */
+    private static void lastDay() {
+        FruitHalls x = new FruitHalls();
+        x.lot(0, 0, 0, 100, 0);
+        for (int day = 1; day <= 999; day++) {
+            due.same("next()", day, x.next());
+        }
+        Due.rules(x, "rot 50;");
+        due.same("next() on day 999", -1, x.next());
+        due.same("the day stays", 999, x.count(0));
+        due.same("nothing rots", 100, x.about(0, 3));
     }
 
     private static void counts() {

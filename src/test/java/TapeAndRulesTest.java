@@ -116,6 +116,8 @@ public final class TapeAndRulesTest {
         fails("5", 0, 2);
         fails("99999", 0, 1);
         fails("buyer", 0, 2);
+        fails("azaz", 0, 2);
+        fails("rot z;", 4, 2);
         fails("rotten 1;", 0, 2);
         fails("ro 1;", 0, 2);
         fails("rot;", 3, 2);
