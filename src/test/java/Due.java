@@ -6,6 +6,10 @@ final class Due {
         long answer();
     }
 
+    interface Taken {
+        boolean isTaken(int number);
+    }
+
     private int wrong = 0;
 
     void same(String what, long due, long got) {
@@ -24,19 +28,33 @@ final class Due {
     }
 
     void noSuchElement(String what, Call call) {
-        boolean threw = false;
-        try {
-            call.answer();
-        } catch (NoSuchElementException e) {
-            threw = true;
-        }
-        yes(what + " throws NoSuchElementException", threw);
+        yes(what + " throws NoSuchElementException", !isTold(call));
+    }
+
+    /** A number goes from least to most: the two are taken, those beyond them are not. */
+    void goes(String what, int least, int most, Taken call) {
+        yes(what + ": " + least + " is taken", call.isTaken(least));
+        yes(what + ": " + most + " is taken", call.isTaken(most));
+        no(what + ": " + (least - 1) + " is taken", call.isTaken(least - 1));
+        no(what + ": " + (most + 1) + " is taken", call.isTaken(most + 1));
+        no(what + ": the least int is taken", call.isTaken(Integer.MIN_VALUE));
+        no(what + ": the greatest int is taken", call.isTaken(Integer.MAX_VALUE));
     }
 
     void finish(String test) {
         System.out.println(test + ": " + (wrong == 0 ? "all answers are as due" : wrong + " answers are not as due"));
         if (wrong != 0) {
             System.exit(1);
+        }
+    }
+
+    /** Whether a call answers, and does not throw a NoSuchElementException. */
+    static boolean isTold(Call call) {
+        try {
+            call.answer();
+            return true;
+        } catch (NoSuchElementException e) {
+            return false;
         }
     }
 
@@ -71,6 +89,24 @@ final class Due {
         }
         tape(x, bytes);
         return x.cars(n);
+    }
+
+    /** Buyers 0 and 1 want all of a grade in hall 0 at one limit, so that each lot brings just that; then an auction. */
+    static int sellAt(FruitHalls x, int grade, int price) {
+        for (int b = 0; b < 2; b++) {
+            x.money(b, 1000000);
+            x.want(b, 0, grade, 5000, price);
+        }
+        int sold = x.auction(0);
+        x.want(0, 0, grade, 0, 0);
+        x.want(1, 0, grade, 0, 0);
+        return sold;
+    }
+
+    static void passDays(FruitHalls x, int days) {
+        for (int i = 0; i < days; i++) {
+            x.next();
+        }
     }
 
     private static int number(byte[] bytes, int from) {

@@ -32,6 +32,9 @@ public final class ModelTest {
         Due due = new Due();
         for (int seed = 0; seed < RUNS; seed++) {
             ModelTest test = new ModelTest(due, seed);
+            if (seed % 10 == 0) {
+                test.bringLots(100);
+            }
             for (int step = 0; step < 120; step++) {
                 test.step();
             }
@@ -45,8 +48,7 @@ public final class ModelTest {
     private void step() {
         int kind = random.nextInt(100);
         if (kind < 28) {
-            int[] a = {random.nextInt(8), random.nextInt(6), random.nextInt(grades), boxes(), random.nextInt(halls)};
-            due.same(run + "lot", m.lot(a[0], a[1], a[2], a[3], a[4]), x.lot(a[0], a[1], a[2], a[3], a[4]));
+            bringLots(1);
         } else if (kind < 40) {
             int buyer = random.nextInt(10);
             int cents = random.nextBoolean() ? 1000000 : random.nextInt(3000);
@@ -67,6 +69,13 @@ public final class ModelTest {
             rules(due, run, x, m, goodText());
         } else {
             compareSome();
+        }
+    }
+
+    private void bringLots(int lots) {
+        for (int k = 0; k < lots; k++) {
+            int[] a = {random.nextInt(8), random.nextInt(6), random.nextInt(grades), boxes(), random.nextInt(halls)};
+            due.same(run + "lot", m.lot(a[0], a[1], a[2], a[3], a[4]), x.lot(a[0], a[1], a[2], a[3], a[4]));
         }
     }
 
