@@ -377,7 +377,8 @@ public final class FruitHalls {
 
         /** The byte at a place; 0, which no rule can hold, behind the end. */
         int byteAt(int place) {
-            return isBelow(place, size) ? bytes[place] : 0;
+            // isBelow is not called here: the reader of rules stands eight calls deep already.
+            return place >= 0 && place < size ? bytes[place] : 0;
         }
 
         int pairAt(int place) {
